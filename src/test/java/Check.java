@@ -33,6 +33,10 @@ final class Check {
         return wrong;
     }
 
+    int looked() {
+        return looked;
+    }
+
     void end() {
         System.out.println(looked + " answers looked at, " + wrong + " not as due");
         if (wrong > 0 || looked == 0) {

@@ -39,7 +39,10 @@ public final class ModelTest {
         if (dice == 0) {
             return WILD[random.nextInt(WILD.length)];
         }
-        return dice < 4 ? least - 1 : dice < 7 ? most + 1 : least + random.nextInt(most - least + 1);
+        if (dice < 7) {
+            return dice < 4 ? least - 1 : most + 1;
+        }
+        return least + random.nextInt(most - least + 1);
     }
 
     private void both(String call, Check.Call asked, Check.Call due) {
@@ -117,6 +120,7 @@ public final class ModelTest {
         int load = pick(100, 900);
         boolean isFore = random.nextBoolean();
         String stow = at + "stow(" + a + ", " + b + ", " + isFore + ")";
+        String advise = at + "advise(" + a + ", " + b + ")";
         switch (random.nextInt(6)) {
             case 0:
                 both(at + "launch(" + load + ")", () -> x.launch(load), () -> m.launch(load));
@@ -125,7 +129,7 @@ public final class ModelTest {
                 both(at + "sail(" + a + ")", () -> x.sail(a), () -> m.sail(a));
                 break;
             case 2:
-                both(at + "advise(" + a + ", " + b + ")", () -> x.advise(a, b), () -> m.advise(a, b));
+                both(advise, () -> x.advise(a, b), () -> m.advise(a, b));
                 break;
             default:
                 both(stow, () -> x.stow(a, b, isFore), () -> m.stow(a, b, isFore));

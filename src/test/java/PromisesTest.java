@@ -1,15 +1,5 @@
 /** Each promise by itself: ordinary inputs, the edges that the document names, wrong inputs. */
-public final class PromisesTest {
-    private static final Class<IndexOutOfBoundsException> INDEX = IndexOutOfBoundsException.class;
-    private static final Class<IllegalArgumentException> ARGUMENT = IllegalArgumentException.class;
-    private static final Class<IllegalStateException> STATE = IllegalStateException.class;
-
-    private static final int HEAVY = 0;
-    private static final int FAIR = 1;
-    private static final int LIGHT = 2;
-    private static final int MIN = Integer.MIN_VALUE;
-    private static final int MAX = Integer.MAX_VALUE;
-
+public final class PromisesTest extends Slopes {
     private static final Check check = new Check();
 
     public static void main(String[] args) {
@@ -50,51 +40,6 @@ public final class PromisesTest {
 
     private static void due(String call, long want, long got) {
         check.due(call, want, got);
-    }
-
-    /** A slope whose layers 0, 1, 2 are light, fair and heavy, with 500 stones each. */
-    private static PumiceSledge slope() {
-        PumiceSledge x = new PumiceSledge();
-        x.set(0, 500, 3);
-        x.set(1, 500, 6);
-        x.set(2, 500, 9);
-        return x;
-    }
-
-    private static PumiceSledge allGusts(PumiceSledge x, int gust) {
-        for (int hour = 0; hour < 8; hour++) {
-            x.setGust(hour, gust);
-        }
-        return x;
-    }
-
-    /** Builds a sledge for 8, and fills sacks of a layer onto it. */
-    private static int sledgeWith(PumiceSledge x, int sacks, int layer) {
-        int sledge = x.build(8);
-        for (int i = 0; i < sacks; i++) {
-            x.fill(sledge, layer);
-        }
-        return sledge;
-    }
-
-    /** A slope with so many heavy, fair and light sacks on the beach; its sledge stands again. */
-    private static PumiceSledge beachWith(int heavy, int fair, int light) {
-        PumiceSledge x = slope();
-        x.build(8);
-        bringDown(x, heavy, 2);
-        bringDown(x, fair, 1);
-        bringDown(x, light, 0);
-        return x;
-    }
-
-    private static void bringDown(PumiceSledge x, int sacks, int layer) {
-        for (int left = sacks; left > 0; left -= 8) {
-            for (int i = 0; i < Math.min(8, left); i++) {
-                x.fill(0, layer);
-            }
-            x.go(0);
-            x.pass(20);
-        }
     }
 
     private static void promise1NewObject() {
@@ -365,7 +310,8 @@ public final class PromisesTest {
     private static void promise10Layer() {
         PumiceSledge x = new PumiceSledge();
         int[][] rows = {
-            {0, 1, LIGHT, 0}, {9, 3, LIGHT, 0}, {10, 4, FAIR, 1}, {99, 6, FAIR, 9}, {500, 7, HEAVY, 50},
+            {0, 1, LIGHT, 0}, {9, 3, LIGHT, 0}, {10, 4, FAIR, 1}, {99, 6, FAIR, 9},
+            {500, 7, HEAVY, 50},
         };
         for (int layer = 0; layer < 5; layer++) {
             x.set(layer, rows[layer][0], rows[layer][1]);
